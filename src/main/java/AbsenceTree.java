@@ -137,18 +137,23 @@ public final class AbsenceTree {
         }
         int count = 0;
         int greatest = NONE;
-        for (int at = 1; at < 2 * past.keys(); at++) {
-            if (tree.bareAt(at) && (at == 1 || !tree.bareAt(at >> 1))) {
-                count++;
-                // places run from the root down, so the first hole met is the greatest
-                if (greatest == NONE) {
-                    greatest = at;
+        int number = NONE;
+        // from the root down, so the first hole that is met is the greatest
+        for (int level = past.depth; level >= 0; level--) {
+            int start = 1 << (past.depth - level);
+            for (int i = 0; i < start; i++) {
+                if (tree.bareAt(start + i) && (start == 1 || !tree.bareAt((start + i) >> 1))) {
+                    if (count == 0) {
+                        greatest = level;
+                        number = i;
+                    }
+                    count++;
                 }
             }
         }
         numbers.empty();
-        numbers.add(greatest == NONE ? NONE : levelOf(greatest, past.keys()));
-        numbers.add(greatest == NONE ? NONE : numberOf(greatest));
+        numbers.add(greatest);
+        numbers.add(number);
         numbers.add(past.keys() - tree.full.size());
         return count;
     }
@@ -492,7 +497,10 @@ public final class AbsenceTree {
         if (tree == null || !past.hasKey(key) || !past.hasKey(other)) {
             return NONE;
         }
-        int level = 32 - Integer.numberOfLeadingZeros(key ^ other);
+        int level = 0;
+        for (int unlike = key ^ other; unlike > 0; unlike >>= 1) {
+            level++;
+        }
         numbers.empty();
         numbers.add(tree.full.under((past.keys() + key) >> level));
         numbers.add((key >> level) << level);
@@ -637,7 +645,7 @@ public final class AbsenceTree {
         numbers.empty();
         numbers.add(past.first);
         numbers.add(past.latest);
-        return past.count();
+        return past.kept();
     }
 
     public int since(int key) {
@@ -770,7 +778,7 @@ public final class AbsenceTree {
     }
 
     public int undo() {
-        if (past.count() <= 1) {
+        if (past.kept() <= 1) {
             return NONE;
         }
         past.latest--;
@@ -834,7 +842,7 @@ public final class AbsenceTree {
             case 2:
                 return past.latest;
             case 3:
-                return past.count();
+                return past.kept();
             case 4:
                 return past.newest().full.size();
             case 5:
@@ -1072,10 +1080,13 @@ public final class AbsenceTree {
 
     private int changesOf(int key) {
         int count = 0;
+        int was = past.hold(past.first).valueOf(key);
         for (int version = past.first + 1; version <= past.latest; version++) {
-            if (past.hold(version).valueOf(key) != past.hold(version - 1).valueOf(key)) {
+            int value = past.hold(version).valueOf(key);
+            if (value != was) {
                 count++;
             }
+            was = value;
         }
         return count;
     }
@@ -1109,12 +1120,12 @@ public final class AbsenceTree {
         return n > 0 ? (r >>> 16) % n : 0;
     }
 
-    private static int levelOf(int at, int keys) {
-        return Integer.numberOfLeadingZeros(at) - Integer.numberOfLeadingZeros(keys);
-    }
-
-    private static int numberOf(int at) {
-        return at - Integer.highestOneBit(at);
+    private static int levelOf(int at, int depth) {
+        int level = depth;
+        for (int above = at >> 1; above > 0; above >>= 1) {
+            level--;
+        }
+        return level;
     }
 
     private static int mix(int a, int b) {
@@ -1270,8 +1281,8 @@ public final class AbsenceTree {
             if (markAt(at) != other.markAt(at)) {
                 return false;
             }
-            int level = levelOf(at, full.keys());
-            int from = numberOf(at) << level;
+            int level = levelOf(at, full.depth);
+            int from = (at << level) - full.keys();
             for (int k = from; k < from + (1 << level); k++) {
                 if (valueOf(k) != other.valueOf(k)) {
                     return false;
@@ -1292,7 +1303,7 @@ public final class AbsenceTree {
             return 1 << depth;
         }
 
-        private int count() {
+        private int kept() {
             return latest - first + 1;
         }
 
