@@ -686,7 +686,8 @@ public final class AbsenceTree {
         if (now.valueOf(to) > 0) {
             return TAKEN;
         }
-        return exchange(key, to);
+        draftExchange(key, to);
+        return settle(TOO_MANY, NO_CHANGE);
     }
 
     public int flips(int mask) {
@@ -705,7 +706,8 @@ public final class AbsenceTree {
         if (!past.hasKey(key) || !past.hasKey(other) || key == other) {
             return NONE;
         }
-        return exchange(key, other);
+        draftExchange(key, other);
+        return settle(TOO_MANY, NO_CHANGE);
     }
 
     public int back(int version) {
@@ -1012,16 +1014,16 @@ public final class AbsenceTree {
         if (draft.isAlike(past.newest(), 1)) {
             return same;
         }
-        past.push(draft);
+        past.advance();
+        past.hold(past.latest).take(draft);
         return past.latest;
     }
 
-    private int exchange(int key, int other) {
+    private void draftExchange(int key, int other) {
         Tree now = past.newest();
         draft.take(now);
         draft.place(key, now.valueOf(other));
         draft.place(other, now.valueOf(key));
-        return settle(TOO_MANY, NO_CHANGE);
     }
 
     private void tellHeld() {
@@ -1339,10 +1341,9 @@ public final class AbsenceTree {
             hold(0).take(tree);
         }
 
-        private void push(Tree tree) {
+        private void advance() {
             latest++;
             first = Math.max(first, latest - MOST_VERSIONS + 1);
-            hold(latest).take(tree);
         }
 
         private void take(History other) {

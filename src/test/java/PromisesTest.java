@@ -648,6 +648,8 @@ public final class PromisesTest {
         is("stretch(1, 1, 3)", x.stretch(1, 1, 3), NONE);
         row(x, 2, 2);
         AbsenceTree y = mapped("8,0=1,255=1");
+        is("stretch(0, 0, 255)", y.stretch(0, 0, 255), 1);
+        row(y, 8000, 0);
         is("stretch(0, 1, 254)", y.stretch(0, 1, 254), 14);
         row(y, 1, 1001, 2001, 3001, 4001, 5001, 6001, 6002, 5006, 4014, 3030, 2062, 1126, 254, 2);
     }
@@ -1137,6 +1139,43 @@ public final class PromisesTest {
         is("calls that do not tell of it", x.count(7), 1);
     }
 
+    /** Two maps of unlike values and like marks, which there are by chance: values tell nodes apart, not marks. */
+    private static void likeByChance() {
+        java.util.Map<Integer, Integer> known = new java.util.HashMap<>();
+        for (int pair = 0; pair < 998 * 998; pair++) {
+            int one = 1 + pair / 998;
+            int two = 1 + pair % 998;
+            Integer other = known.put(h(leaf(0, one), leaf(1, two)), pair);
+            if (other != null) {
+                likeByChance(1 + other / 998, 1 + other % 998, one, two);
+                return;
+            }
+        }
+        is("two maps of like marks", 0, 1);
+    }
+
+    private static void likeByChance(int a, int b, int c, int d) {
+        AbsenceTree x = mapped("3,0=" + a + ",1=" + b);
+        is("batch()", write(x, "0=" + c + ",1=" + d).batch(), 1);
+        x.root(0);
+        long root = x.row(0);
+        x.root(1);
+        row(x, root);
+        is("differ(0, 1)", x.differ(0, 1), 2);
+        is("shared(0, 1)", x.shared(0, 1), 0);
+        row(x, 5, 5);
+        is("looks(0, 1)", x.looks(0, 1), 7);
+        is("all()", x.all(), 10);
+        row(x, 10);
+        x.proof(0, 6);
+        is("accepted()", x.accepted(), 2);
+        row(x, 0, 1);
+        is("back(0)", x.back(0), 2);
+        is("get(2, 0)", x.get(2, 0), a);
+        is("all()", x.all(), 10);
+        row(x, 15);
+    }
+
     public static void main(String[] args) {
         Runnable[] promises = {
             PromisesTest::newObject, PromisesTest::sign, PromisesTest::end, PromisesTest::map, PromisesTest::batch,
@@ -1155,6 +1194,8 @@ public final class PromisesTest {
             promise = Integer.toString(i + 1);
             promises[i].run();
         }
+        promise = "30 to 33, 44 (like marks by chance)";
+        likeByChance();
         is("promises tested", promises.length, 53);
         System.out.println(wrong == 0 ? "PromisesTest: all answers are as due" : "PromisesTest: " + wrong + " wrong");
         if (wrong != 0) {
