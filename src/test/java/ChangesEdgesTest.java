@@ -23,6 +23,91 @@ public final class ChangesEdgesTest {
         Edges.refusedText("day()", text, -1 - place, AbsenceTree::day);
     }
 
+    private static final Edges.Call[] CHANGES = {
+        x -> x.puts(3, 1), x -> x.moves(0, 3), x -> x.flips(1), x -> x.swaps(0, 7), x -> x.back(5), x -> x.joins(3, 13, 13),
+        x -> x.clears(1, 2), x -> x.sheet(2, 2, 3, 4, 1), x -> Edges.write(x, "3=1,0=0").batch(),
+        x -> Edges.write(x, "p003001c000000").day(), x -> Edges.write(x, "4,1=1").map(), AbsenceTree::undo,
+    };
+
+    /** Calls behind which VERSIONS and VALUES are as ahead of them. */
+    private static final Edges.Call[] IDLE = {
+        x -> x.would(3, 5, 9), x -> x.years(1, 60), x -> x.puts(0, 14), x -> x.sheet(1, 2, 2, 5, 2), x -> x.sheet(1, 2, 9, 5, 2),
+        x -> x.joins(13, 14, 12), x -> x.moves(0, 1), x -> x.flips(0), x -> x.back(14), x -> x.clears(3, 5), x -> x.others(3, 0),
+        x -> Edges.write(x, "4,1=1,2=2,").map(), x -> Edges.write(x, "8,255=1;").map(), x -> Edges.write(x, "3,5=9x").map(),
+        x -> Edges.write(x, "3=1,").batch(), x -> Edges.write(x, "0=0,1=0,2=1000").batch(), x -> Edges.write(x, "1=5").batch(),
+        x -> Edges.write(x, "p000001x").day(), x -> Edges.write(x, "b99").day(), x -> Edges.write(x, "0,1").together(3),
+        x -> Edges.write(x, "1=1:1:x").told(), x -> x.shared(3, 14), x -> x.stretch(14, 1, 6), x -> x.all(),
+    };
+
+    @Edges.Says("T2: Refused calls answer NONE, or false, and change nothing .. Questions change nothing (changes go on as without them)")
+    private static void changesGoOn() {
+        for (int i = 0; i < IDLE.length; i++) {
+            for (int j = 0; j < CHANGES.length; j++) {
+                AbsenceTree x = Edges.worn();
+                IDLE[i].on(x);
+                AbsenceTree y = Edges.worn();
+                long due = CHANGES[j].on(y);
+                Edges.yes("change " + j + " is done", due >= 0);
+                Edges.is("change " + j + " behind idle call " + i, CHANGES[j].on(x), due);
+                Edges.alike("change " + j + " behind idle call " + i, x, y, false, false);
+            }
+        }
+    }
+
+    @Edges.Says("48: The latest VERSION goes: the one ahead of it is the latest then. (changes go on from there)")
+    private static void changesGoOnBehindUndo() {
+        Edges.Call[] undone = {x -> x.puts(3, 3), x -> x.clears(0, 7), x -> x.flips(7), x -> x.back(3)};
+        for (int i = 0; i < undone.length; i++) {
+            for (int j = 0; j < CHANGES.length; j++) {
+                AbsenceTree x = Edges.worn();
+                x.undo();
+                Edges.is("change " + i + " that is undone", undone[i].on(x), 14);
+                x.undo();
+                AbsenceTree y = Edges.worn();
+                y.undo();
+                Edges.is("change " + j + " behind undo()", CHANGES[j].on(x), CHANGES[j].on(y));
+                Edges.alike("change " + j + " behind undo()", x, y, false, false);
+            }
+        }
+    }
+
+    @Edges.Says("51: They are as they were kept under a number (changes go on from there)")
+    private static void changesGoOnBehindAgain() {
+        for (int j = 0; j < CHANGES.length; j++) {
+            AbsenceTree x = Edges.worn();
+            x.keep(1);
+            Edges.write(x, "8,255=1").map();
+            x.puts(0, 7);
+            x.again(1);
+            AbsenceTree y = Edges.worn();
+            y.keep(1);
+            y.again(1);
+            Edges.is("change " + j + " behind again()", CHANGES[j].on(x), CHANGES[j].on(y));
+            Edges.alike("change " + j + " behind again()", x, y, false, false);
+        }
+    }
+
+    @Edges.Says("40: -5: 41 would have one (and nothing is changed by that)")
+    private static void changesGoOnBehind41() {
+        Edges.Call[] idle = {
+            x -> x.puts(255, 1), x -> x.sheet(40, 2, 3, 1, 1), x -> Edges.write(x, "255=1,0=0,1=0,254=1,253=1").batch(), x -> x.would(1, 255, 1),
+        };
+        Edges.Call[] changes = {
+            x -> x.puts(0, 9), x -> x.moves(0, 40), x -> x.flips(1), x -> x.swaps(0, 40), x -> x.back(0), x -> x.joins(1, 0, 1),
+            x -> x.clears(0, 0), x -> x.sheet(39, 2, 2, 0, 1), x -> Edges.write(x, "0=0,40=1").batch(),
+        };
+        for (int i = 0; i < idle.length; i++) {
+            for (int j = 0; j < changes.length; j++) {
+                AbsenceTree x = Edges.full();
+                idle[i].on(x);
+                Edges.is("change " + j + " behind idle call " + i, changes[j].on(x), 2);
+                AbsenceTree y = Edges.full();
+                changes[j].on(y);
+                Edges.alike("change " + j + " behind idle call " + i, x, y, false, false);
+            }
+        }
+    }
+
     // ---- promise 40
 
     @Edges.Says("40: VALUE of a KEY becomes v (0 .. 999): the VERSION.")

@@ -151,8 +151,11 @@ final class Edges {
         for (int what = 0; what < 7; what++) {
             all.add((long) x.count(what));
         }
-        all.add((long) x.hand());
-        tellRow(x, all);
+        int marks = x.hand();
+        all.add((long) marks);
+        if (marks >= 0) {
+            tellRow(x, all);
+        }
         tellVersions(x, all);
         if (ofText) {
             all.add((long) x.count(8));

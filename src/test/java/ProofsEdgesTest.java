@@ -101,20 +101,19 @@ public final class ProofsEdgesTest {
 
     @Edges.Says("19: MARK what - 3 (3 .. 10; any int)")
     private static void altersMarks() {
-        AbsenceTree x = Edges.mapped(ALL_BESIDE_0);
-        x.proof(0, 0);
+        Edges.Maker eight = () -> {
+            AbsenceTree y = Edges.mapped(ALL_BESIDE_0);
+            y.proof(0, 0);
+            return y;
+        };
         for (int what = 3; what <= 10; what++) {
+            AbsenceTree x = eight.make();
             alters(x, what, Edges.LEAST);
             alters(x, what, Edges.GREATEST);
             alters(x, what, -1);
             alters(x, what, 0);
             alters(x, what, 1000 + what);
         }
-        Edges.Maker eight = () -> {
-            AbsenceTree y = Edges.mapped(ALL_BESIDE_0);
-            y.proof(0, 0);
-            return y;
-        };
         Edges.refused("alters(11, 1)", 0, eight, y -> Edges.bit(y.alters(11, 1)));
     }
 

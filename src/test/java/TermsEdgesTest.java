@@ -150,6 +150,37 @@ public final class TermsEdgesTest {
         Edges.refused("puts(3, -1)", Edges.NONE, y -> y.puts(3, -1));
     }
 
+    @Edges.Says("T1: each with a VALUE 0 .. 999 (0: it has none) (the least VALUE, 1, is one)")
+    private static void leastValue() {
+        AbsenceTree x = Edges.mapped("3,0=1,7=1");
+        Edges.is("count(4)", x.count(4), 2);
+        Edges.is("level(0, 0)", x.level(0, 0), 2);
+        Edges.is("holes(0)", x.holes(0), 4);
+        Edges.row(x, 1, 1, 6);
+        Edges.is("middle(0)", x.middle(0), 0);
+        Edges.is("root(0)", x.root(0), 2);
+        Edges.is("node(0, 0, 7)", x.node(0, 0, 7), 0);
+        Edges.is("nodes(0)", x.nodes(0), 7);
+        Edges.is("key(0, 1)", x.key(0, 1), 7);
+        Edges.is("near(0, 7)", x.near(0, 7), 1);
+        Edges.row(x, 0, Edges.NONE);
+        Edges.is("near(0, 3)", x.near(0, 3), 1);
+        Edges.row(x, 0, 7);
+        Edges.is("sum(0, 0, 7)", x.sum(0, 0, 7), 2);
+        Edges.row(x, 2, 1);
+        Edges.is("with(0, 1)", x.with(0, 1), 2);
+        Edges.is("proof(0, 0)", x.proof(0, 0), 1);
+        Edges.is("bare(0, 7)", x.bare(0, 7), -2);
+        Edges.is("others(0, 7)", x.others(0, 7), 1);
+        Edges.is("path(0, 7)", x.path(0, 7), 0);
+        Edges.is("forks(0, 0, 7)", x.forks(0, 0, 7), 3);
+        Edges.row(x, 2, 0);
+        Edges.is("would(0, 7, 0)", x.would(0, 7, 0), 1);
+        Edges.is("moves(0, 7)", x.moves(0, 7), -3);
+        Edges.is("moves(7, 6)", x.moves(7, 6), 1);
+        Edges.is("clears(6, 6)", x.clears(6, 6), 2);
+    }
+
     @Edges.Says("T1: at most 40 with one")
     private static void atMost40() {
         Edges.is("count(4)", Edges.full().count(4), 40);

@@ -148,6 +148,43 @@ public final class VersionsEdgesTest {
         Edges.row(z, 16);
     }
 
+    @Edges.Says("33: (of one LEVEL, number and VALUES they are one)")
+    private static void allOfOne() {
+        AbsenceTree x = Edges.mapped("3");
+        x.puts(0, 1);
+        x.puts(7, 1);
+        x.puts(3, 1);
+        // 4, then KEY 7, two above it and the ROOT, then KEY 3, two above it and the ROOT
+        Edges.is("all() of one KEY more each time", x.all(), 4 + 4 + 4);
+        Edges.row(x, 4 + 7 + 9);
+        // a NODE that is as in a VERSION that is not the one ahead, beside one that is not
+        AbsenceTree y = Edges.mapped("3,0=1");
+        y.puts(0, 2);
+        Edges.write(y, "0=1,1=5").batch();
+        Edges.is("all() of a KEY that is as it was, beside another one", y.all(), 4 + 4 + 4);
+        Edges.row(y, 4 + 4 + 5);
+        AbsenceTree z = Edges.mapped("3,2=1,3=2,4=7");
+        z.clears(0, 7);
+        Edges.write(z, "2=1,3=2,0=3,4=8").batch();
+        Edges.is("all() of a NODE of LEVEL 1 that is as it was", z.all(), 8 + 7);
+        Edges.row(z, 8 + 10);
+        // by chance MARKS of these VALUES of KEYS 0 and 1 are alike above them
+        AbsenceTree chance = Edges.mapped("3,0=50,1=749");
+        chance.clears(0, 7);
+        Edges.is("batch()", Edges.write(chance, "0=12,1=940").batch(), 2);
+        chance.node(0, 1, 0);
+        long mark = chance.row(0);
+        chance.node(2, 1, 0);
+        Edges.row(chance, mark);
+        Edges.is("all() of unlike VALUES and like MARKS", chance.all(), 10);
+        Edges.row(chance, 10);
+        Edges.is("back(0)", chance.back(0), 3);
+        Edges.is("all() of three", chance.all(), 10);
+        Edges.row(chance, 15);
+        Edges.is("shared(0, 2)", chance.shared(0, 2), 0);
+        Edges.is("looks(0, 2)", chance.looks(0, 2), 7);
+    }
+
     @Edges.Says("33: in all KEPT VERSIONS (12 of them, and not those ahead)")
     private static void allOfTwelve() {
         AbsenceTree x = Edges.mapped("3,7=9");
