@@ -686,7 +686,7 @@ public final class AbsenceTree {
         if (now.valueOf(to) > 0) {
             return TAKEN;
         }
-        draftExchange(key, to);
+        draftExchange(now, key, to);
         return settle(TOO_MANY, NO_CHANGE);
     }
 
@@ -706,7 +706,7 @@ public final class AbsenceTree {
         if (!past.hasKey(key) || !past.hasKey(other) || key == other) {
             return NONE;
         }
-        draftExchange(key, other);
+        draftExchange(past.newest(), key, other);
         return settle(TOO_MANY, NO_CHANGE);
     }
 
@@ -1011,7 +1011,7 @@ public final class AbsenceTree {
         if (draft.full.size() > MOST_FULL) {
             return tooMany;
         }
-        if (draft.isAlike(past.newest(), 1)) {
+        if (draft.isAlike(past.hold(past.latest), 1)) {
             return same;
         }
         past.advance();
@@ -1019,8 +1019,7 @@ public final class AbsenceTree {
         return past.latest;
     }
 
-    private void draftExchange(int key, int other) {
-        Tree now = past.newest();
+    private void draftExchange(Tree now, int key, int other) {
         draft.take(now);
         draft.place(key, now.valueOf(other));
         draft.place(other, now.valueOf(key));
